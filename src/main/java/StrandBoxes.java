@@ -23,7 +23,6 @@ public final class StrandBoxes {
 
     private static final int RING = 1000;
     private static final int FIRST_S = 11;
-    private static final int FREE_POINT = -1;
 
     private final Boxes[] boxes = new Boxes[MOST_STRANDS];
     private final Halves[] halfRows = new Halves[MOST_STRANDS];
@@ -305,7 +304,6 @@ public final class StrandBoxes {
         final int[][] beneath;
         private final int[] draft;
         private final boolean[] seen;
-        private int listed;
 
         Boxes(int strands) {
             this.strands = strands;
@@ -319,10 +317,7 @@ public final class StrandBoxes {
             beneath = new int[count][letters];
             draft = new int[points];
             seen = new boolean[points];
-            for (int p = 0; p < points; p++) {
-                draft[p] = FREE_POINT;
-            }
-            listPairings(strands);
+            listPairings();
             for (int b = 0; b < count; b++) {
                 rings[b] = closeRings(partners[b]);
             }
@@ -338,27 +333,48 @@ public final class StrandBoxes {
             return ways;
         }
 
-        /** The least free point takes its partners in order, so BOXES come by their NUMBERS. */
-        private void listPairings(int pairsLeft) {
-            if (pairsLeft <= 0) {
-                if (listed < count) {
-                    System.arraycopy(draft, 0, partners[listed], 0, points);
-                    listed++;
-                }
-                return;
+        /** Counts up what each pair passes over, the last pair first: so NUMBERS go up, too. */
+        private void listPairings() {
+            int[] passed = new int[strands];
+            for (int b = 0; b < count; b++) {
+                pairBy(passed, partners[b]);
+                countUp(passed);
             }
-            int p = 0;
-            while (p < points - 1 && draft[p] != FREE_POINT) {
-                p++;
-            }
-            for (int q = p + 1; q < points; q++) {
-                if (draft[q] == FREE_POINT) {
-                    draft[p] = q;
-                    draft[q] = p;
-                    listPairings(pairsLeft - 1);
-                    draft[p] = FREE_POINT;
-                    draft[q] = FREE_POINT;
+        }
+
+        /** The least free point's partner is behind as many other free points as are passed. */
+        private void pairBy(int[] passed, int[] pairing) {
+            forgetSeen();
+            int k = 0;
+            for (int p = 0; p < points - 1 && k < strands; p++) {
+                if (!seen[p]) {
+                    int q = freeBehind(p, passed[k]);
+                    seen[p] = true;
+                    seen[q] = true;
+                    pair(pairing, p, q);
+                    k++;
                 }
+            }
+        }
+
+        private int freeBehind(int p, int passed) {
+            int left = passed;
+            int q = p + 1;
+            while (q < points - 1 && (seen[q] || left > 0)) {
+                left -= seen[q] ? 0 : 1;
+                q++;
+            }
+            return q;
+        }
+
+        private void countUp(int[] passed) {
+            int k = strands - 1;
+            while (k >= 0 && passed[k] >= points - 2 * k - 2) {
+                passed[k] = 0;
+                k--;
+            }
+            if (k >= 0) {
+                passed[k]++;
             }
         }
 
@@ -488,18 +504,18 @@ public final class StrandBoxes {
             }
             if (letter >= FIRST_S) {
                 int left = letter - FIRST_S;
-                pairDraft(left, strands + left + 1);
-                pairDraft(left + 1, strands + left);
+                pair(draft, left, strands + left + 1);
+                pair(draft, left + 1, strands + left);
             } else if (letter > 0) {
-                pairDraft(letter - 1, letter);
-                pairDraft(strands + letter - 1, strands + letter);
+                pair(draft, letter - 1, letter);
+                pair(draft, strands + letter - 1, strands + letter);
             }
             return numberOf(draft);
         }
 
-        private void pairDraft(int p, int q) {
-            draft[p] = q;
-            draft[q] = p;
+        private static void pair(int[] pairing, int p, int q) {
+            pairing[p] = q;
+            pairing[q] = p;
         }
 
         int ofPairs(long pairs) {
@@ -515,7 +531,7 @@ public final class StrandBoxes {
                 }
                 seen[p] = true;
                 seen[q] = true;
-                pairDraft(p, q);
+                pair(draft, p, q);
             }
             return numberOf(draft);
         }
@@ -534,7 +550,7 @@ public final class StrandBoxes {
             int at = start;
             for (int step = 0; step <= points; step++) {
                 at = upper ? x[at] : y[at];
-                if (upper == at < strands) {
+                if (upper == (at < strands)) {
                     return at;
                 }
                 seen[upper ? at - strands : at] = true;
@@ -656,7 +672,7 @@ public final class StrandBoxes {
                 return false;
             }
             int i = 0;
-            while (i < size && (numbers[i] < b || numbers[i] == b && powers[i] < power)) {
+            while (i < size && (numbers[i] < b || (numbers[i] == b && powers[i] < power))) {
                 i++;
             }
             if (isAt(i, b, power)) {
@@ -988,8 +1004,8 @@ public final class StrandBoxes {
                 int rings = 0;
                 int worth = 0;
                 for (int i = 0; i < size; i++) {
-                    boolean turned = (state >> i & 1) == 1;
-                    worth += turned == letters[i] < 0 ? 1 : -1;
+                    boolean turned = ((state >> i) & 1) == 1;
+                    worth += turned == (letters[i] < 0) ? 1 : -1;
                     if (turned) {
                         int next = all.beneath[at][Math.abs(letters[i]) - 1];
                         at = next % RING;
