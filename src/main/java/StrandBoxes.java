@@ -299,6 +299,7 @@ public final class StrandBoxes {
         final int[] rings;
         /** Letters of each BOX's LEAST SPELLING. */
         final int[] lengths;
+        /** LEAST SPELLINGS, each letter by its place among all letters. */
         private final int[][] spellings;
         /** By BOX and place of a letter: that PLAIN BOX stacked beneath the BOX. */
         final int[][] beneath;
@@ -480,23 +481,18 @@ public final class StrandBoxes {
             }
         }
 
+        /** Letters in order: those of E, then those of S. */
         private int letterAt(int k) {
             return k < strands - 1 ? k + 1 : k - (strands - 1) + FIRST_S;
         }
 
-        /** The place of a letter among all letters in order, below 0 if it is none. */
-        private int placeOf(int letter) {
-            if (letter >= 1 && letter < strands) {
-                return letter - 1;
-            }
-            if (letter >= FIRST_S && letter < FIRST_S + strands - 1) {
-                return letter - FIRST_S + strands - 1;
-            }
-            return -1;
+        private boolean isLetter(int letter) {
+            return (letter >= 1 && letter < strands)
+                    || (letter >= FIRST_S && letter < FIRST_S + strands - 1);
         }
 
         int ofLetter(int letter) {
-            if (letter != 0 && placeOf(letter) < 0) {
+            if (letter != 0 && !isLetter(letter)) {
                 return BAD;
             }
             for (int p = 0; p < points; p++) {
@@ -593,7 +589,7 @@ public final class StrandBoxes {
                 for (int k = 0; k < letters; k++) {
                     int next = beneath[found[i]][k];
                     if (next < count && lengths[next] == UNKNOWN && size < count) {
-                        spellBehind(next, found[i], letterAt(k));
+                        spellBehind(next, found[i], k);
                         found[size] = next;
                         size++;
                     }
@@ -601,15 +597,15 @@ public final class StrandBoxes {
             }
         }
 
-        private void spellBehind(int b, int before, int letter) {
+        private void spellBehind(int b, int before, int k) {
             int length = Math.min(lengths[before], LONGEST - 1);
             System.arraycopy(spellings[before], 0, spellings[b], 0, length);
-            spellings[b][length] = letter;
+            spellings[b][length] = k;
             lengths[b] = length + 1;
         }
 
         int letterOf(int b, int i) {
-            return i < lengths[b] ? spellings[b][i] : NONE;
+            return i < lengths[b] ? letterAt(spellings[b][i]) : NONE;
         }
 
         /** A spelling of y makes no RINGS, so its letters beneath x make just those of x on y. */
@@ -617,7 +613,7 @@ public final class StrandBoxes {
             int at = x;
             int inner = 0;
             for (int i = 0; i < lengths[y]; i++) {
-                int next = beneath[at][placeOf(spellings[y][i])];
+                int next = beneath[at][spellings[y][i]];
                 at = next % RING;
                 inner += next - at;
             }
@@ -911,14 +907,25 @@ public final class StrandBoxes {
         }
 
         private int fillTable(int t, int v, int p) {
-            int rows = countLeaving(t);
-            for (int i = 0; i < rows; i++) {
-                for (int j = 0; j < rows; j++) {
-                    int form = lay(find(t, i), find(t, j));
-                    table[i][j] = form == NONE ? 0 : raise(v, form, p);
+            int rows = 0;
+            for (int x = 0; x < size; x++) {
+                if (left[x] == t) {
+                    fillRow(table[rows], x, v, p);
+                    rows++;
                 }
             }
             return rows;
+        }
+
+        private void fillRow(int[] row, int x, int v, int p) {
+            int column = 0;
+            for (int y = 0; y < size; y++) {
+                if (left[y] == left[x]) {
+                    int form = lay(x, y);
+                    row[column] = form == NONE ? 0 : raise(v, form, p);
+                    column++;
+                }
+            }
         }
 
         private static int raise(int v, int exponent, int p) {
